@@ -745,19 +745,23 @@ public final class OneCall {
             return NONE;
         }
 
+        private int sortedCount() {
+            return Math.min(size, MOST_SORTED_NEEDS);
+        }
+
         private int allNeeds() {
-            return (1 << Math.min(size, MOST_SORTED_NEEDS)) - 1;
+            return (1 << sortedCount()) - 1;
         }
 
         /** The table then tells of each set how long an ORDER of its NEEDS can be. */
         private void fillOrders() {
-            for (int i = 0; i < size && i < MOST_SORTED_NEEDS; i++) {
+            for (int i = 0; i < sortedCount(); i++) {
                 partners[i] = canStandBehind(i);
             }
             table[0] = 0;
             for (int set = 1; set <= allNeeds(); set++) {
                 int longest = 0;
-                for (int i = 0; i < size && i < MOST_SORTED_NEEDS; i++) {
+                for (int i = 0; i < sortedCount(); i++) {
                     if (isIn(i, set)) {
                         longest = Math.max(longest, 1 + table[set & partners[i]]);
                     }
@@ -768,7 +772,7 @@ public final class OneCall {
 
         private int canStandBehind(int i) {
             int result = 0;
-            for (int j = 0; j < size && j < MOST_SORTED_NEEDS; j++) {
+            for (int j = 0; j < sortedCount(); j++) {
                 if (piece[i] != piece[j] && isIn(piece[j], lacked[i])) {
                     result |= 1 << j;
                 }
@@ -777,7 +781,7 @@ public final class OneCall {
         }
 
         private int firstOfLongest(int set) {
-            for (int i = 0; i < size && i < MOST_SORTED_NEEDS; i++) {
+            for (int i = 0; i < sortedCount(); i++) {
                 if (isIn(i, set) && 1 + table[set & partners[i]] == table[set]) {
                     return i;
                 }
@@ -787,7 +791,7 @@ public final class OneCall {
 
         /** The table then tells of each set how few GROUPS its NEEDS can be in: 1 if it is a GROUP. */
         private void fillGroups() {
-            for (int i = 0; i < size && i < MOST_SORTED_NEEDS; i++) {
+            for (int i = 0; i < sortedCount(); i++) {
                 partners[i] = canBeGroupedWith(i);
             }
             table[0] = 0;
@@ -801,7 +805,7 @@ public final class OneCall {
 
         private int canBeGroupedWith(int i) {
             int result = 0;
-            for (int j = 0; j < size && j < MOST_SORTED_NEEDS; j++) {
+            for (int j = 0; j < sortedCount(); j++) {
                 boolean serveEachOther = who[i] != who[j]
                         && !isIn(piece[i], lacked[j]) && !isIn(piece[j], lacked[i]);
                 if (piece[i] == piece[j] || serveEachOther) {

@@ -31,8 +31,11 @@ public final class PromiseTest {
     static void sayAll(OneCall x, int... masks) {
         for (int m : masks) { int n = x.count(2); due("say(" + m + ")", x.say(m), n); }
     }
+    static void sayUpTo(OneCall x, int many, int mask) {
+        for (int c = x.count(2); c < many; c++) due("say(" + mask + ")", x.say(mask), c);
+    }
     static void fill(OneCall x) {
-        while (x.count(2) < 40) due("say(1)", x.say(1), x.count(2) - 1);
+        sayUpTo(x, 40, 1);
     }
     static void order(OneCall x, int... needs) {
         due("below()", x.below(), needs.length);
@@ -416,7 +419,7 @@ public final class PromiseTest {
         due("nothing known", y.why(0, 0), -1);
         sayAll(y, 3);
         due("not worked out", y.why(0, 0), -1);
-        while (y.count(2) < 39) y.say(3);
+        sayUpTo(y, 39, 3);
         due("the last call", y.say(2), 39);
         due("by the first and the last", y.why(0, 0), 1L << 39 | 1L);
         due("by the last", y.why(0, 1), 1L << 39);
@@ -424,7 +427,7 @@ public final class PromiseTest {
         // Twelve sums over three pieces' span, then thirty-nine calls that are not new, then one that is.
         OneCall z = made(5, HOLDING);
         give(z, 0, 1, 2, 3, 4, 5, 6, 7, 8, 9, 10, 11, 12);
-        while (z.count(2) < 39) z.say(15);
+        sayUpTo(z, 39, 15);
         due("the last call", z.say(31), 39);
         due("row 51 with 0, 1, 3 and 7", z.why(0, 4), 1L << 51 | 1L << 0 | 1L << 1 | 1L << 3 | 1L << 7);
     }
@@ -768,6 +771,23 @@ public final class PromiseTest {
         give(most, 1, 2);
         due("1 and 2 are news for one, 3 for both", most.goOn(), 3);
 
+        OneCall few = made(3, ONE, SEVERAL, SEVERAL, SEVERAL, SEVERAL, SEVERAL, SEVERAL, SEVERAL, SEVERAL, SEVERAL);
+        wish(few, 0, 2);
+        for (int l = 1; l < 10; l++) {
+            wish(few, l, 0, 1);
+            give(few, l, 4);
+        }
+        due("one served is more than ten that get nearer", few.goOn(), 4);
+        due("then all nine get nearer", few.goOn(), 1);
+        due("then all nine are served", few.goOn(), 2);
+
+        OneCall served = made(2, SEVERAL, SEVERAL, ONE, ONE);
+        wish(served, 0, 0, 1);
+        wish(served, 1, 0, 1);
+        give(served, 0, 1);
+        give(served, 1, 1);
+        due("2 serves both; those SERVED already, who would get nearer by 1, don't count", served.goOn(), 2);
+
         OneCall deaf = made(2, DEAF);
         wish(deaf, 0, 1);
         due("off", deaf.off(0, 1), 0);
@@ -808,7 +828,7 @@ public final class PromiseTest {
         due("count(2)", x.count(2), 3);
         OneCall full = made(3, SEVERAL);
         wish(full, 0, 0, 1, 2);
-        while (full.count(2) < 39) full.say(1);
+        sayUpTo(full, 39, 1);
         due("FULL after one", full.finish(), 1);
         due("FULL at once", full.finish(), 0);
         due("count(2)", full.count(2), 40);
