@@ -715,16 +715,14 @@ public final class OneCall {
         }
 
         int inTheOrder(int i) {
-            fillOrders();
-            int open = allNeeds();
-            for (int place = 0; place <= i && open != 0; place++) {
-                int first = firstOfLongest(open);
-                if (place == i) {
-                    return first;
-                }
-                open &= partners[first];
+            if (i < 0 || i >= longestOrder()) {
+                return NONE;
             }
-            return NONE;
+            int open = allNeeds();
+            for (int place = 0; place < i; place++) {
+                open &= partners[firstOfLongest(open)];
+            }
+            return firstOfLongest(open);
         }
 
         int fewestGroups() {
@@ -733,16 +731,14 @@ public final class OneCall {
         }
 
         int inTheGroups(int k) {
-            fillGroups();
-            int open = allNeeds();
-            for (int place = 0; place <= k && open != 0; place++) {
-                int first = firstOfFewest(open);
-                if (place == k) {
-                    return first;
-                }
-                open &= ~first;
+            if (k < 0 || k >= fewestGroups()) {
+                return NONE;
             }
-            return NONE;
+            int open = allNeeds();
+            for (int place = 0; place < k; place++) {
+                open &= ~firstOfFewest(open);
+            }
+            return firstOfFewest(open);
         }
 
         private int sortedCount() {

@@ -474,6 +474,11 @@ public final class PromiseTest {
             due("lack(0, " + f + ")", x.lack(0, f), NONE);
             due("lack(" + f + ", 0)", x.lack(f, 0), NONE);
         }
+        OneCall z = made(5, HOLDING);
+        give(z, 0, 1, 2, 3, 4, 5, 6, 7, 8, 9, 10, 11, 12);
+        sayUpTo(z, 40, 15);
+        due("with all 52 rows", z.lack(0, 4), 16);
+        due("with all 52 rows", z.lack(0, 3), NONE);
         OneCall y = made(3, HOLDING);
         give(y, 0, 7);
         due("7: 0 goes with 1 or 2, 3 is less than 5", y.lack(0, 0), 3);
