@@ -57,6 +57,20 @@ public final class FaceTest {
         check(c.getFields().length == constants.length, "five constants");
     }
 
+    /** The lists above must be the document's own lines. */
+    static void faceOfTheDocument(String doc) {
+        Matcher block = Pattern.compile("(?s)## The public face\\s+```java\n(.*?)```").matcher(doc);
+        check(block.find(), "the document has a face");
+        Set<String> due = new TreeSet<>();
+        Matcher methods = Pattern.compile("public (int|long) (\\w+)\\(([^)]*)\\);").matcher(block.group(1));
+        while (methods.find()) {
+            due.add(methods.group(1) + " " + methods.group(2) + "(" + methods.group(3).replaceAll(" \\w+(, )?", ",").replaceAll(",$", "") + ")");
+        }
+        check(due.equals(new TreeSet<>(Arrays.asList(METHODS))), "the document's methods are " + due);
+        check(block.group(1).contains("public static final int NONE = -1, BAD = -2, KIND = -3, FULL = -4, STATE = -5;"), "the document's constants");
+        check(block.group(1).lines().count() == METHODS.length + 4, "the document's face has no other lines");
+    }
+
     static void checkMembers(Class<?> c, Set<String> publicNames) {
         for (Method m : c.getDeclaredMethods()) {
             boolean isPrivate = Modifier.isPrivate(m.getModifiers());
@@ -93,9 +107,30 @@ public final class FaceTest {
         check(source.chars().allMatch(sign -> sign < 128), "plain signs alone");
     }
 
+    /** Methods stay short: some sixty lines. A method's last line is the first with a brace as far in as its own. */
+    static void methodsAreShort(String source) {
+        String[] lines = source.split("\n");
+        Pattern head = Pattern.compile("( {4}| {8})(?=\\w)(?!.*\\bclass\\b).*\\) \\{");
+        int methods = 0;
+        for (int i = 0; i < lines.length; i++) {
+            Matcher m = head.matcher(lines[i]);
+            if (!m.matches() || Pattern.compile(" *(if|for|while|switch) .*").matcher(lines[i]).matches()) continue;
+            int end = i;
+            while (end < lines.length && !lines[end].equals(m.group(1) + "}")) end++;
+            check(end - i < 60, "short: " + lines[i].strip());
+            methods++;
+        }
+        check(methods >= METHODS.length, "the methods are seen: " + methods);
+    }
+
     public static void main(String[] args) throws IOException, IllegalAccessException {
+        Path root = Path.of(args.length > 0 ? args[0] : ".");
         face();
-        text(Path.of(args.length > 0 ? args[0] : "."));
+        text(root);
+        methodsAreShort(Files.readString(root.resolve("src/main/java/OneCall.java")));
+        check(OneCall.class.getDeclaredClasses().length < 12, "twelve classes at most");
+        Path doc = root.resolve("../shared/DOC.md");
+        if (Files.exists(doc)) faceOfTheDocument(Files.readString(doc));
         System.out.println(wrong == 0 ? "the face is as due" : wrong + " things are not as due");
         if (wrong != 0) System.exit(1);
     }
